@@ -139,7 +139,7 @@ public final class PearSummer {
         }
         Wall wall = new Wall(Arrays.copyOf(text, signs));
         signs = 0;
-        if (!wall.isWhole()) {
+        if (!wall.readAll()) {
             return FAULT_BASE - wall.at;
         }
         now.wall = wall;
@@ -194,10 +194,6 @@ public final class PearSummer {
         return NOBODY;
     }
 
-    private static boolean areHours(int hours) {
-        return hours >= 0 && hours <= ALL_HOURS;
-    }
-
     // ---- days
 
     public int pass(int n) {
@@ -238,6 +234,10 @@ public final class PearSummer {
             return BAD;
         }
         return now.isCut(fruit) ? NOBODY : leastCuts(fruit, hours);
+    }
+
+    private static boolean areHours(int hours) {
+        return hours >= 0 && hours <= ALL_HOURS;
     }
 
     private int leastCuts(int fruit, int hours) {
@@ -621,8 +621,7 @@ public final class PearSummer {
         if (sorts[tape] != sorts[other]) {
             return CAST;
         }
-        if (n < 0 || i < 0 || j < 0 || n > lengths[tape] || n > lengths[other]
-                || i > lengths[tape] - n || j > lengths[other] - n) {
+        if (n < 0 || i < 0 || j < 0 || i > lengths[tape] - n || j > lengths[other] - n) {
             return PLACE;
         }
         System.arraycopy(cells[tape], i, cells[other], j, n);
@@ -643,7 +642,7 @@ public final class PearSummer {
         }
     }
 
-    /** Rows told by hand: a fruit (or 0, or what goes) and hours each. */
+    /** Rows told by hand: of each a fruit (0, where it does not matter), and hours or what goes. */
     private static final class Rows {
         final int[] first;
         final int[] second;
@@ -866,7 +865,7 @@ public final class PearSummer {
         static final int MOST_CLAUSES = 10, MOST_NEST = 4;
         /** Two halves wait at each of the five levels, and one is at work. */
         static final int MOST_WAITING = 11;
-        static final char FIXED = 'h', SUN = '+', SHADE = '-';
+        static final char FIXED = 'h', SUN = '+', SHADE = '-', NO_LETTER = ' ';
         static final int END = -1;
 
         final byte[] text;
@@ -889,7 +888,7 @@ public final class PearSummer {
         }
 
         /** Reads the text: whether it is a wall. Each reading stops at the first sign that none can have. */
-        boolean isWhole() {
+        boolean readAll() {
             for (int clause = 0; clause < MOST_CLAUSES; clause++) {
                 if (!readClause()) {
                     return false;
@@ -952,7 +951,7 @@ public final class PearSummer {
             if (!readSign(' ') || !readEither(0)) {
                 return false;
             }
-            addStep(isShade ? SHADE : SUN, SUN, strength);
+            addStep(isShade ? SHADE : SUN, NO_LETTER, strength);
             return true;
         }
 
@@ -961,7 +960,7 @@ public final class PearSummer {
             for (int i = 0; i < text.length && fine && sign() == '|'; i++) {
                 at++;
                 fine = readBoth(nest);
-                addStep('|', '|', 0);
+                addStep('|', NO_LETTER, 0);
             }
             return fine;
         }
@@ -971,7 +970,7 @@ public final class PearSummer {
             for (int i = 0; i < text.length && fine && sign() == '&'; i++) {
                 at++;
                 fine = readOne(nest);
-                addStep('&', '&', 0);
+                addStep('&', NO_LETTER, 0);
             }
             return fine;
         }
@@ -989,7 +988,7 @@ public final class PearSummer {
                 return readEither(nest + 1) && readSign(')');
             }
             boolean fine = readOne(nest + 1);
-            addStep('!', '!', 0);
+            addStep('!', NO_LETTER, 0);
             return fine;
         }
 
@@ -1008,7 +1007,7 @@ public final class PearSummer {
                 return false;
             }
             if (letter == 'h') {
-                addStep(FIXED, FIXED, hoursThat((char) relation, number));
+                addStep(FIXED, NO_LETTER, hoursThat((char) relation, number));
             } else {
                 addStep((char) relation, (char) letter, number);
             }
@@ -1017,7 +1016,7 @@ public final class PearSummer {
 
         private static int hoursThat(char relation, int n) {
             // Numbers beyond the last hour are all one behind it here.
-            int hour = 1 << Math.min(n, HOURS);
+            int hour = 1 << (n < HOURS ? n : HOURS);
             switch (relation) {
                 case '<': return hour - 1;
                 case '=': return hour & ALL_HOURS;

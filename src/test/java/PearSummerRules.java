@@ -1,0 +1,214 @@
+import java.lang.reflect.Constructor;
+import java.lang.reflect.Field;
+import java.lang.reflect.Method;
+import java.lang.reflect.Modifier;
+import java.nio.file.Files;
+import java.nio.file.Path;
+import java.util.ArrayList;
+import java.util.Arrays;
+import java.util.List;
+import java.util.Set;
+import java.util.TreeSet;
+import java.util.regex.Matcher;
+import java.util.regex.Pattern;
+
+/** What of LANGUAGE.md, of the document's face and of the room can be looked at from outside. */
+public final class PearSummerRules {
+    private static final String FACE = "fruit(int,int)int of(int,int)int cut(int,boolean)int set(int,int,int)int row(int,int,int)int "
+        + "feed(int)int wall()int told(int)int pass(int)int on(int,int)int clear(int,int)int help(int,int)int want(int)int sent(int)int "
+        + "see(int,int)int can(int,int)int which(int)int odds(int,int,int)long mean(int)long plan(int,int)int ends(int)int "
+        + "book(int,int)int looked()int judge(int,int)int image()int undo()int act(int,int,int)int trace(int)int taken(int,int)int "
+        + "count(int)int tape(int,int,int)int item(int,int,long)int read(int,int)long shift(int,int,int,int,int)int";
+
+    private static int wrong;
+
+    public static void main(String[] args) throws Exception {
+        theFace();
+        theClassesInside();
+        theSource(Files.readString(Path.of("src/main/java/PearSummer.java")));
+        theRoom();
+        System.out.println(wrong == 0 ? "the rules are kept" : wrong + " rules are not kept");
+        if (wrong != 0) {
+            System.exit(1);
+        }
+    }
+
+    private static void must(boolean is, String rule) {
+        if (!is) {
+            wrong++;
+            System.out.println("not kept: " + rule);
+        }
+    }
+
+    private static List<Class<?>> classes() {
+        List<Class<?>> all = new ArrayList<>(Arrays.asList(PearSummer.class.getDeclaredClasses()));
+        all.add(PearSummer.class);
+        return all;
+    }
+
+    private static String told(Method m) {
+        StringBuilder told = new StringBuilder(m.getName()).append('(');
+        for (Class<?> type : m.getParameterTypes()) {
+            told.append(told.charAt(told.length() - 1) == '(' ? "" : ",").append(type.getName());
+        }
+        return told.append(')').append(m.getReturnType().getName()).toString();
+    }
+
+    private static void theFace() {
+        int kind = PearSummer.class.getModifiers();
+        must(Modifier.isPublic(kind) && Modifier.isFinal(kind), "the class is public and final");
+        Set<String> face = new TreeSet<>();
+        for (Method m : PearSummer.class.getDeclaredMethods()) {
+            must(Modifier.isPublic(m.getModifiers()) || Modifier.isPrivate(m.getModifiers()), m.getName() + " is public or private");
+            if (Modifier.isPublic(m.getModifiers())) {
+                face.add(told(m));
+            }
+        }
+        must(face.equals(new TreeSet<>(Arrays.asList(FACE.split(" ")))), "the methods are the document's: " + face);
+        Constructor<?>[] makers = PearSummer.class.getDeclaredConstructors();
+        must(makers.length == 1 && makers[0].getParameterCount() == 0 && Modifier.isPublic(makers[0].getModifiers()), "one public constructor");
+        Set<String> constants = new TreeSet<>();
+        for (Field f : PearSummer.class.getDeclaredFields()) {
+            must(Modifier.isPublic(f.getModifiers()) || Modifier.isPrivate(f.getModifiers()), f.getName() + " is public or private");
+            if (Modifier.isPublic(f.getModifiers())) {
+                constants.add(f.getName());
+            }
+        }
+        must(constants.equals(Set.of("NONE", "BAD", "STATE", "FULL", "NO")), "the constants are the document's");
+    }
+
+    private static void theClassesInside() {
+        Set<String> face = new TreeSet<>();
+        for (String method : FACE.split(" ")) {
+            face.add(method.substring(0, method.indexOf('(')));
+        }
+        must(classes().size() <= 12, "at most twelve classes");
+        for (Class<?> c : classes()) {
+            boolean isInside = c != PearSummer.class;
+            must(!isInside || Modifier.isStatic(c.getModifiers()) && !Modifier.isPublic(c.getModifiers()), c + " is static and not public");
+            int fields = 0;
+            for (Field f : c.getDeclaredFields()) {
+                boolean isStatic = Modifier.isStatic(f.getModifiers());
+                must(!isStatic || Modifier.isFinal(f.getModifiers()), c + "." + f.getName() + " is final");
+                fields += isStatic ? 0 : 1;
+            }
+            must(fields <= 20, c + " has at most twenty fields");
+            for (Method m : c.getDeclaredMethods()) {
+                must(m.getParameterCount() <= 7, m + " has at most seven parameters");
+                must(!isInside || !face.contains(m.getName()), m + " does not bear a public method's name");
+            }
+        }
+    }
+
+    private static void theSource(String source) {
+        String code = source.replaceAll("(?s)/\\*.*?\\*/", "").replaceAll("//[^\n]*", "").replaceAll("'[^']*'", "' '").replaceAll("\"[^\"]*\"", "\"\"");
+        String[] words = {"throw", "throws", "try", "catch", "synchronized", "assert", "package", "volatile", "native", "double", "float",
+            "Object", "System\\.out", "Random", "Thread", "hashCode", "toString", "Exact", "var", "static\\s*\\{", "->", "::", "@\\w+"};
+        for (String word : words) {
+            boolean isWord = Character.isLetter(word.charAt(0)) && !word.endsWith("{");
+            Matcher found = Pattern.compile(isWord ? "\\b" + word + "\\b" : word).matcher(code);
+            must(!found.find(), "no " + word);
+        }
+        Matcher imports = Pattern.compile("import ([^;]*);").matcher(code);
+        while (imports.find()) {
+            must(imports.group(1).equals("java.util.Arrays"), "no " + imports.group());
+        }
+        Matcher library = Pattern.compile("\\b(Arrays|System|Math|Integer|Long)\\.(\\w+)").matcher(code);
+        Set<String> allowed = Set.of("Arrays.fill", "Arrays.copyOf", "System.arraycopy", "Math.max", "Math.min", "Integer.bitCount",
+            "Integer.MAX_VALUE", "Long.MIN_VALUE");
+        while (library.find()) {
+            must(allowed.contains(library.group()), "no " + library.group());
+        }
+        methodsAreShort(code.split("\n"));
+    }
+
+    private static void methodsAreShort(String[] lines) {
+        int begin = -1;
+        String end = "";
+        for (int i = 0; i < lines.length; i++) {
+            Matcher head = Pattern.compile("^(    |        )[a-zA-Z].*\\) \\{$").matcher(lines[i]);
+            if (begin < 0 && head.find()) {
+                begin = i;
+                end = head.group(1) + "}";
+            } else if (begin >= 0 && lines[i].equals(end)) {
+                must(i - begin <= 60, "a short method at " + lines[begin].trim());
+                begin = -1;
+            }
+        }
+    }
+
+    /** What is asked makes nothing, and a whole life of the dearest calls stays far below the room. */
+    private static void theRoom() {
+        com.sun.management.ThreadMXBean bean = (com.sun.management.ThreadMXBean) java.lang.management.ManagementFactory.getThreadMXBean();
+        long id = Thread.currentThread().getId();
+        askAll(aTree());
+        PearSummer x = aTree();
+        long before = bean.getThreadAllocatedBytes(id);
+        askAll(x);
+        long asked = bean.getThreadAllocatedBytes(id) - before;
+        must(asked < 4096, "what is asked makes nothing; it made bytes: " + asked);
+        before = bean.getThreadAllocatedBytes(id);
+        new PearSummer();
+        long made = bean.getThreadAllocatedBytes(id) - before;
+        must(made < 20000, "a new object is small; its bytes: " + made);
+        PearSummer y = new PearSummer();
+        y.wall();
+        before = bean.getThreadAllocatedBytes(id);
+        for (int i = 0; i < 512; i++) {
+            y.wall();
+        }
+        long walls = bean.getThreadAllocatedBytes(id) - before;
+        must(walls < 512 * 400, "a wall of no text is small; bytes of 512: " + walls);
+    }
+
+    private static PearSummer aTree() {
+        PearSummer x = new PearSummer();
+        for (int kind = 1; kind < 7; kind++) {
+            x.fruit(kind, kind);
+        }
+        for (char sign : "sun 3 (p=1|h>3&!r<3)&k<4;shade 2 d>4|v=3;ripe 60".toCharArray()) {
+            x.feed(sign);
+        }
+        x.wall();
+        for (int i = 0; i < 6; i++) {
+            x.want(1 << i);
+            x.see(i, 64);
+            x.plan(0, 0);
+            x.book(i, 0);
+        }
+        x.tape(0, 2, 60);
+        return x;
+    }
+
+    private static void askAll(PearSummer x) {
+        for (int i = 0; i < 6; i++) {
+            for (int what = 0; what < 22; what++) {
+                x.of(i, what);
+                x.told(what);
+            }
+            x.on(30, 10 + i);
+            x.on(30, 20 + i);
+            x.clear(i, 4095);
+            x.help(i, 1);
+            x.sent(i);
+            x.can(i, 1);
+            x.which(1);
+            x.odds(i, i, 1);
+            x.mean(1);
+            x.ends(1);
+            x.looked();
+            x.judge(0, i);
+            x.image();
+            x.undo();
+            x.act(i, 2, 5);
+            x.trace(i);
+            x.taken(i, i);
+            x.count(i);
+            x.tape(0, 2, 60);
+            x.item(0, i, 5);
+            x.read(0, i);
+            x.shift(0, 0, 0, 1, 20);
+            x.pass(60);
+        }
+    }
+}
