@@ -1,3 +1,5 @@
+import java.io.DataInputStream;
+import java.io.IOException;
 import java.lang.reflect.Constructor;
 import java.lang.reflect.Field;
 import java.lang.reflect.Method;
@@ -20,6 +22,14 @@ public final class PearSummerRules {
         + "book(int,int)int looked()int judge(int,int)int image()int undo()int act(int,int,int)int trace(int)int taken(int,int)int "
         + "count(int)int tape(int,int,int)int item(int,int,long)int read(int,int)long shift(int,int,int,int,int)int";
 
+    /** Rule 4, as the compiler writes the calls; a name that ends in Exact is refused besides. */
+    private static final Pattern LIBRARY = Pattern.compile("PearSummer(\\$\\w+)?\\..*|java/lang/(Object|Record)\\.<init>|java/lang/runtime/ObjectMethods\\.bootstrap"
+        + "|java/lang/Enum\\.(<init>|valueOf|ordinal)|\\[.*\\.clone"
+        + "|java/lang/String\\.(length|charAt|isEmpty|equals|indexOf|substring|toCharArray|<init>)"
+        + "|java/lang/StringBuilder\\.(<init>|append|charAt|setCharAt|setLength|deleteCharAt|reverse|length|toString)"
+        + "|java/util/(ArrayList|List)\\.(<init>|add|get|set|remove|size|isEmpty|clear|iterator|of)|java/util/Iterator\\.(hasNext|next)"
+        + "|java/lang/(Math|Integer|Long)\\.\\w+|java/lang/System\\.arraycopy|java/util/Arrays\\.(copyOf|copyOfRange|fill)");
+
     private static final long MOST_BYTES = 4_000_000;
 
     private static int wrong;
@@ -28,6 +38,7 @@ public final class PearSummerRules {
         theFace();
         theClassesInside();
         theSource(Files.readString(Path.of("src/main/java/PearSummer.java")));
+        theLibrary();
         theRoom();
         System.out.println(wrong == 0 ? "the rules are kept" : wrong + " rules are not kept");
         if (wrong != 0) {
@@ -120,6 +131,47 @@ public final class PearSummerRules {
             must(library.group().matches("(Arrays\\.(copyOf|copyOfRange|fill)|System\\.arraycopy|(Math|Integer|Long)\\..*)"), "no " + library.group());
         }
         methodsAreShort(code.split("\n"));
+    }
+
+    /** What the compiled classes call, by their constant pools: no way of writing a call hides it here. */
+    private static void theLibrary() throws IOException {
+        for (Class<?> c : classes()) {
+            try (DataInputStream in = new DataInputStream(c.getResourceAsStream(c.getName() + ".class"))) {
+                for (String call : calledBy(in)) {
+                    must(LIBRARY.matcher(call).matches() && !call.endsWith("Exact"), "no " + call + " in " + c.getName());
+                }
+            }
+        }
+    }
+
+    private static List<String> calledBy(DataInputStream in) throws IOException {
+        in.skipBytes(8);
+        int size = in.readUnsignedShort();
+        String[] texts = new String[size];
+        int[][] pairs = new int[size][];
+        boolean[] isCall = new boolean[size];
+        for (int i = 1; i < size; i++) {
+            int tag = in.readUnsignedByte();
+            switch (tag) {
+                case 1: texts[i] = in.readUTF(); break;
+                case 3: case 4: in.skipBytes(4); break;
+                case 5: case 6: in.skipBytes(8); i++; break;
+                case 7: case 8: case 16: case 19: case 20: pairs[i] = new int[] {in.readUnsignedShort()}; break;
+                case 9: case 10: case 11: case 12: case 17: case 18:
+                    pairs[i] = new int[] {in.readUnsignedShort(), in.readUnsignedShort()};
+                    isCall[i] = tag == 10 || tag == 11;
+                    break;
+                case 15: in.skipBytes(3); break;
+                default: throw new IOException("tag " + tag);
+            }
+        }
+        List<String> called = new ArrayList<>();
+        for (int i = 1; i < size; i++) {
+            if (isCall[i]) {
+                called.add(texts[pairs[pairs[i][0]][0]] + "." + texts[pairs[pairs[i][1]][0]]);
+            }
+        }
+        return called;
     }
 
     private static void methodsAreShort(String[] lines) {
